@@ -157,6 +157,15 @@ public final class PromiseTests {
         due(FULL, full.put(0, 0, LENS, 4, 0));
         due(LENS, full.take(0, 1));
         due(3, full.put(0, 0, LENS, 4, 0));
+        due(LENS, full.take(0, 2));
+        due(3, full.put(0, 2, LENS, 5, 0));
+        LightRound eight = with(STRETCH, 1, 0, STRETCH, 2, 0, STRETCH, 3, 0, STRETCH, 4, 0,
+                STRETCH, 5, 0, STRETCH, 6, 0, TILT, 1, 0, TILT, 2, 0);
+        due(TILT, eight.take(0, 7));
+        due(8, eight.put(0, 7, TILT, 3, 0));
+        due(STRETCH, eight.take(0, 0));
+        dueRow(eight, 0, STRETCH, 2, 0, STRETCH, 3, 0, STRETCH, 4, 0, STRETCH, 5, 0,
+                STRETCH, 6, 0, TILT, 1, 0, TILT, 3, 0);
     }
 
     private static void set() {
@@ -301,6 +310,10 @@ public final class PromiseTests {
         due(1000, light.ray(0, 0, 1000, 1000, 0, 0, 0));
         due(-1000, light.ray(0, 0, -1000, -1000, 0, 1, 0));
         due(5000, light.ray(0, 0, 1000, 1000, 4, 0, 0));
+        LightRound tilted = with(TILT, 2, 0, STRETCH, 5, 0, LENS, -4, 0);
+        due(1 + 5 * (3 + 2), tilted.ray(0, 0, 1, 3, 2, 0, 0));
+        due(23, tilted.ray(0, 0, 1, 3, 3, 1, 0));
+        due(2, tilted.ray(0, 0, 1, 3, 3, 1, 1));
         due(NO, light.ray(0, 0, 1001, 0, 0, 0, 0));
         due(NO, light.ray(0, 0, -1001, 0, 0, 0, 0));
         due(NO, light.ray(0, 0, 0, 1001, 0, 0, 0));
@@ -339,6 +352,13 @@ public final class PromiseTests {
         due(NONE, light.stops(0, -1, 1000, 0));
         due(NONE, light.stops(1, 0, 1000, 0));
         due(NONE, with(STRETCH, 20, 0).stops(0, 0, 1000, 1000));
+        LightRound tilted = with(TILT, 2, 0, STRETCH, 5, 0, STOP, 10, 0);
+        due(NONE, tilted.stops(0, 0, 0, 0));
+        due(NONE, tilted.stops(0, 0, 0, -4));
+        due(2, tilted.stops(0, 0, 1, 0));
+        due(NONE, tilted.stops(0, 0, -1, 0));
+        due(STOP, tilted.take(0, 2));
+        due(NONE, tilted.stops(0, 0, 1, 0));
         // a ray a fraction beyond the stop: 2 + 1/3 against 2
         due(2, with(LENS, -3, 0, STRETCH, 1, 0, STOP, 2, 0).stops(0, 0, 1, 1));
         due(NONE, with(LENS, -3, 0, STRETCH, 3, 0, STOP, 2, 0).stops(0, 0, 1, 0));
@@ -366,6 +386,15 @@ public final class PromiseTests {
         LightRound bent = with(STRETCH, 4, 0, MIRROR, 1, -1, STRETCH, 4, 0, STOP, 50, 0);
         due(6, bent.full(0, 0));
         due(2, bent.full(0, 1));
+        // tilted ahead of the stretch behind: 4 y + 4 (y - 4 y / f + 2)
+        due(5, bent.put(0, 2, TILT, 2, 0));
+        due(7, bent.full(0, 0));
+        due(1, bent.full(0, 1));
+        due(0, bent.set(0, 2, -3, 0));
+        due(4, bent.full(0, 0));
+        due(2, bent.full(0, 1));
+        due(STOP, bent.take(0, 4));
+        due(1000, bent.full(0, 0));
         due(NONE, bent.full(0, 2));
         due(NONE, bent.full(0, -1));
         due(NONE, bent.full(1, 0));
@@ -656,6 +685,16 @@ public final class PromiseTests {
         due(-1, light.part(0, 0, 1));
         due(5, light.drawer(2));
         due(2, light.round(0, 0));
+        due(-1, light.swap(0, 0, 0));
+        due(-4, light.part(0, 0, 1));
+        due(0, light.set(0, 0, 9, 0));
+        due(9, light.swap(0, 0, 0));
+        due(0, light.fit(0, 0));
+        LightRound none = with(LENS, 3, 0, STRETCH, 20, 0);
+        for (int k = 1; k <= 12; k++) {
+            due(k, none.own(k % 5 - 6));
+        }
+        due(NONE, none.fit(0, 0));
         // both ways must hold: a mirror that is a strong one for way 1 alone
         LightRound both = with(LENS, 4, 0, MIRROR, 9, -4, STRETCH, 4, 0);
         due(1, both.own(9));
