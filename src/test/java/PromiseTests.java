@@ -456,6 +456,10 @@ public final class PromiseTests {
         add(plain);
         due(1, plain.same(0, 1, 0));
         due(1, plain.same(0, 2, 1));
+        // A alone differs: (3/4, 4, -1/4, 0) and (1/2, 4, -1/4, 0)
+        LightRound alone = with(STRETCH, 4, 0, LENS, 4, 0, STRETCH, 1, 0);
+        add(alone, STRETCH, 4, 0, LENS, 4, 0, STRETCH, 2, 0);
+        due(0, alone.same(0, 1, 0));
         // lenses of 6 and 3 are one of 2
         LightRound two = with(LENS, 6, 0, LENS, 3, 0);
         add(two, LENS, 2, 0);
