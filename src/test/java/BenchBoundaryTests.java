@@ -68,6 +68,11 @@ public final class BenchBoundaryTests extends Checks {
                 STOP, 1, 0, MIRROR, 5, -6, STOP, 2, 0);
         changed(two, 3, l -> l.put(0, 2, MIRROR, 5, -6), 0,
                 STOP, 1, 0, STOP, 2, 0, MIRROR, 5, -6);
+        Maker mirrors = one(MIRROR, 1, 2, MIRROR, 3, 4);
+        changed(mirrors, 3, l -> l.put(0, 0, STOP, 9, 0), 0,
+                STOP, 9, 0, MIRROR, 1, 2, MIRROR, 3, 4);
+        changed(mirrors, 3, l -> l.put(0, 1, STOP, 9, 0), 0,
+                MIRROR, 1, 2, STOP, 9, 0, MIRROR, 3, 4);
         sentence("how many there are. NONE (i, too)");
         edges(two, NONE, 0, 3, 2, 3, (l, n) -> l.put(0, n, STRETCH, 1, 0));
         edges(EMPTY, NONE, 0, 1, 0, 1, (l, n) -> l.put(0, n, STRETCH, 1, 0));
@@ -173,7 +178,7 @@ public final class BenchBoundaryTests extends Checks {
     }
 
     private static void tooManyOfAKind() {
-        sentence("LENSES and MIRRORS together are 3 at most on a BENCH; FULL: too many of the KIND");
+        sentence("LENSES and MIRRORS together are 3 at most on a BENCH; FULL: too many");
         int[][] pairs = {row(LENS, 1, 0, LENS, 2, 0), row(LENS, 1, 0, MIRROR, 2, 2),
             row(MIRROR, 1, 1, LENS, 2, 0), row(MIRROR, 1, 1, MIRROR, 2, 2)};
         for (int[] pair : pairs) {

@@ -63,6 +63,44 @@ public final class RayBoundaryTests extends Checks {
         dueTable(FINE, 1, 124, 63, -1433, 63, 1, 7, -8, 7, 2693, 21, 45, 7);
     }
 
+    private static void product(Maker maker, int way) {
+        long[] t = new long[8];
+        for (int k = 0; k < 8; k++) {
+            t[k] = maker.make().table(0, way, k / 2, k % 2);
+        }
+        // A D - B C, all brought above one line.
+        long above = t[0] * t[6] * t[3] * t[5] - t[2] * t[4] * t[1] * t[7];
+        due(t[1] * t[7] * t[3] * t[5], above);
+    }
+
+    private static void products() {
+        sentence("(A D - B C is 1.)");
+        for (int way = 0; way < 2; way++) {
+            product(EMPTY, way);
+            product(BIG, way);
+            product(FINE, way);
+            product(laden(), way);
+        }
+    }
+
+    private static void oneCallAfterAnother() {
+        sentence("THE TABLE is of the one BENCH: no call leaves something for the next");
+        LightRound light = of(row(TILT, 3, 0, STRETCH, 5, 0, LENS, -7, 0), row()).make();
+        for (int entry = 0; entry < 6; entry++) {
+            light.table(0, 0, 5, 0);
+            due(entry == 0 || entry == 3 ? 1 : 0, light.table(1, 0, entry, 0));
+            light.same(1, 0, 0);
+            due(1, light.table(1, 0, entry, 1));
+        }
+        due(0, light.same(0, 1, 0));
+        due(1, light.same(1, 1, 0));
+        due(0, light.same(1, 0, 0));
+        due(1, light.same(1, 1, 0));
+        light.full(0, 0);
+        due(1000, light.full(1, 0));
+        due(0, light.ray(1, 0, 0, 0, 0, 0, 0));
+    }
+
     private static void rays() {
         sentence("NO: x or y not -1000 .. 1000");
         edges(laden(), NO, -1000, -1000, 1000, 1000, (l, n) -> l.ray(0, 0, n, 0, 0, 0, 0));
@@ -184,6 +222,13 @@ public final class RayBoundaryTests extends Checks {
                 l -> l.full(0, 0));
         asked(one(STRETCH, 4, 0, MIRROR, 1, -1, STRETCH, 2, 0, STOP, 28, 0), 2,
                 l -> l.full(0, 1));
+        sentence("on either side: 6 - 2 y and -6 - 2 y, 6 + 14 y and -6 + 14 y by the WAY");
+        Maker up = one(STRETCH, 4, 0, MIRROR, 1, -1, TILT, 3, 0, STRETCH, 2, 0, STOP, 8, 0);
+        asked(up, 7, l -> l.full(0, 0));
+        asked(up, 0, l -> l.full(0, 1));
+        Maker down = one(STRETCH, 4, 0, MIRROR, 1, -1, TILT, -3, 0, STRETCH, 2, 0, STOP, 8, 0);
+        asked(down, 1, l -> l.full(0, 0));
+        asked(down, 1, l -> l.full(0, 1));
         sentence("each y comes to the same place: all of them, or NONE: (0, 0) does not");
         asked(one(STRETCH, 2, 0, LENS, 1, 0, STRETCH, 2, 0, STOP, 1, 0), 1000,
                 l -> l.full(0, 0));
@@ -273,6 +318,8 @@ public final class RayBoundaryTests extends Checks {
 
     public static void main(String[] args) {
         tables();
+        products();
+        oneCallAfterAnother();
         rays();
         stops();
         noStops();

@@ -249,6 +249,17 @@ public final class RoundBoundaryTests extends Checks {
                 MIRROR, 7, -9, STRETCH, 7, 0, STRETCH, 6, 0);
         asked(last, 7, l -> l.waist(0, 0));
         asked(last, 4, l -> l.waist(0, 1));
+        sentence("the PART at which WIDE is least: each one in turn");
+        LightRound turned = one(STOP, 9, 0, STRETCH, 3, 0, LENS, 4, 0, STRETCH, 3, 0).make();
+        for (int i = 0; i < 3; i++) {
+            due(i, turned.waist(0, 0));
+            int kind = turned.part(0, 3, 0);
+            int a = turned.part(0, 3, 1);
+            due(kind, turned.take(0, 3));
+            due(4, turned.put(0, 0, kind, a, 0));
+        }
+        sentence("the first one of several: the STOP is PART 3 now, PART 0 is as near");
+        due(0, turned.waist(0, 0));
         sentence("WAIST with T next to 2 and to -2");
         asked(UNDER_TWO, 0, l -> l.waist(0, 0));
         asked(OVER_MINUS_TWO, 0, l -> l.waist(0, 0));
