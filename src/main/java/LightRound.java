@@ -285,7 +285,8 @@ public final class LightRound {
 
     public int span(int bench, int i, int j) {
         Row row = rowAt(bench);
-        // A j under 0 is no number of any span, so it is told ahead of STATE.
+        // That j counts from 0 on is told of every part, so NONE comes ahead of STATE there; how far
+        // it goes a SPAN alone can tell, which only a STRETCH has.
         if (row == null || !row.has(i) || j < 0) {
             return NONE;
         }

@@ -48,10 +48,15 @@ public final class DrawerBoundaryTests extends Checks {
             int at = i;
             asked(KINDS, STATE, l -> l.span(0, at, 0));
             asked(KINDS, STATE, l -> l.span(0, at, 20));
+            asked(KINDS, STATE, l -> l.span(0, at, 21));
+            asked(KINDS, STATE, l -> l.span(0, at, Integer.MAX_VALUE));
         }
         sentence("The j-th length, from 0 on: NONE under 0, told ahead of STATE");
-        asked(KINDS, NONE, l -> l.span(0, 0, -1));
-        asked(KINDS, NONE, l -> l.span(0, 1, -1));
+        for (int i = 0; i < 5; i++) {
+            int at = i;
+            asked(KINDS, NONE, l -> l.span(0, at, -1));
+            asked(KINDS, NONE, l -> l.span(0, at, Integer.MIN_VALUE));
+        }
     }
 
     private static void own() {
